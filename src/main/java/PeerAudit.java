@@ -230,7 +230,7 @@ public final class PeerAudit {
             throw new IllegalStateException("not a witness of the machine");
         }
         save();
-        world.examine(witness, target);
+        target.verdicts[witness] = world.judge(witness, target);
         return target.verdicts[witness];
     }
 
@@ -238,7 +238,7 @@ public final class PeerAudit {
         save();
         int changed = 0;
         for (int x = 0; x < world.n; x++) {
-            changed += world.examineByAll(world.machines[x]);
+            changed += world.judgeByAll(world.machines[x]);
         }
         return changed;
     }
@@ -283,7 +283,7 @@ public final class PeerAudit {
             throw new IllegalStateException("the undo stack is empty");
         }
         nextSlot = (nextSlot + MOST_SAVED - 1) % MOST_SAVED;
-        world.copyFrom(saved[nextSlot]);
+        world.copyWorld(saved[nextSlot]);
         savedCount--;
         return savedCount;
     }
@@ -301,7 +301,7 @@ public final class PeerAudit {
     // ---- what the methods above share
 
     private void requireMachine(int machine) {
-        if (machine < 0 || machine >= world.n) {
+        if (!world.isMachine(machine)) {
             throw new IndexOutOfBoundsException("no such machine");
         }
     }
@@ -320,7 +320,7 @@ public final class PeerAudit {
     }
 
     private void save() {
-        saved[nextSlot].copyFrom(world);
+        saved[nextSlot].copyWorld(world);
         nextSlot = (nextSlot + 1) % MOST_SAVED;
         if (savedCount < MOST_SAVED) {
             savedCount++;
@@ -410,16 +410,17 @@ public final class PeerAudit {
             this.cells = new int[width * most];
         }
 
-        boolean hasCell(int row, int column) {
-            return row >= 0 && row < count && column >= 0 && column < width;
-        }
-
+        /** Returns NONE if there is no such cell. */
         int get(int row, int column) {
-            return hasCell(row, column) ? cells[row * width + column] : NONE;
+            if (row < 0 || row >= count || column < 0 || column >= width) {
+                return NONE;
+            }
+            return cells[row * width + column];
         }
 
+        /** Does nothing if there is no such cell. */
         void set(int row, int column, int value) {
-            if (hasCell(row, column)) {
+            if (row >= 0 && row < count && column >= 0 && column < width) {
                 cells[row * width + column] = value;
             }
         }
@@ -455,7 +456,7 @@ public final class PeerAudit {
         }
 
         /** The other table must be of the same width and size. */
-        void copyFrom(Table other) {
+        void copyRows(Table other) {
             count = other.count;
             System.arraycopy(other.cells, 0, cells, 0, count * width);
         }
@@ -482,7 +483,7 @@ public final class PeerAudit {
             pending = new Table(MSG_WIDTH, MOST_PENDING);
         }
 
-        void begin(int n) {
+        void start(int n) {
             state = number;
             silent = false;
             aboutToLie = false;
@@ -495,15 +496,15 @@ public final class PeerAudit {
             pending.keepFirst(0);
         }
 
-        void copyFrom(Machine other) {
+        void copyMachine(Machine other) {
             state = other.state;
             silent = other.silent;
             aboutToLie = other.aboutToLie;
             witnesses = other.witnesses;
             System.arraycopy(other.verdicts, 0, verdicts, 0, MOST_MACHINES);
-            log.copyFrom(other.log);
-            held.copyFrom(other.held);
-            pending.copyFrom(other.pending);
+            log.copyRows(other.log);
+            held.copyRows(other.held);
+            pending.copyRows(other.pending);
         }
 
         boolean hasRoom(int queuedMessages) {
@@ -607,19 +608,23 @@ public final class PeerAudit {
         void begin(int newN) {
             n = newN;
             for (int x = 0; x < n; x++) {
-                machines[x].begin(n);
+                machines[x].start(n);
             }
             queue.keepFirst(0);
             evidence.keepFirst(0);
         }
 
-        void copyFrom(World other) {
+        void copyWorld(World other) {
             n = other.n;
             for (int x = 0; x < n; x++) {
-                machines[x].copyFrom(other.machines[x]);
+                machines[x].copyMachine(other.machines[x]);
             }
-            queue.copyFrom(other.queue);
-            evidence.copyFrom(other.evidence);
+            queue.copyRows(other.queue);
+            evidence.copyRows(other.evidence);
+        }
+
+        boolean isMachine(int number) {
+            return number >= 0 && number < n;
         }
 
         void take(Machine taker, int kind, int peer, int value) {
@@ -652,9 +657,10 @@ public final class PeerAudit {
             return queue.get(0, MSG_RECEIVER);
         }
 
+        /** Whether there is a first message, and its receiver is silent or has room. */
         boolean canDeliver() {
             int receiver = firstReceiver();
-            if (receiver < 0 || receiver >= n) {
+            if (!isMachine(receiver) || !isMachine(queue.get(0, MSG_SENDER))) {
                 return false;
             }
             // the message that is being delivered does not take room in the queue
@@ -679,12 +685,12 @@ public final class PeerAudit {
         }
 
         /** Returns how many verdicts on the machine changed. */
-        int examineByAll(Machine target) {
+        int judgeByAll(Machine target) {
             int changed = 0;
             for (int w = 0; w < n; w++) {
                 if (target.hasWitness(w)) {
                     int before = target.verdicts[w];
-                    examine(w, target);
+                    target.verdicts[w] = judge(w, target);
                     if (target.verdicts[w] != before) {
                         changed++;
                     }
@@ -693,13 +699,11 @@ public final class PeerAudit {
             return changed;
         }
 
-        void examine(int witness, Machine target) {
-            if (target.verdicts[witness] != EXPOSED) {
-                target.verdicts[witness] = judge(witness, target);
-            }
-        }
-
+        /** Goes through the steps of an audit, and returns the verdict to which it comes. */
         int judge(int witness, Machine target) {
+            if (target.verdicts[witness] == EXPOSED) {
+                return EXPOSED;
+            }
             if (target.silent) {
                 return SUSPECTED;
             }

@@ -62,7 +62,8 @@ final class Script {
         System.out.println(title + ": " + call + " answered " + got + ", due is " + want);
     }
 
-    private String answer(String call) {
+    /** The answer of a call, or "throws E". */
+    String answer(String call) {
         int open = call.indexOf('(');
         String name = call.substring(0, open);
         String inside = call.substring(open + 1, call.lastIndexOf(')')).trim();
