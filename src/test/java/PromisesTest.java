@@ -233,7 +233,8 @@ public final class PromisesTest {
 
         // the whole message comes back: machine 1 sent 66 to machine 2, and entry 1 of its log is its authenticator's
         Script whole = new Script("promise 10, the whole message").calls("setSilent(2, true) = 0; input(1, 2) = 66; deliver() = 2;"
-            + "setSilent(2, false) = 1; resend(2) = 1; deliver() = 2; entry(2, 0) = 120066; held(1) = 1; held(0) = 0;"
+            + "input(0, 1) = 18; deliver() = 1; state(1) = 2354; queued() = 0; held(1) = 1; held(0) = 1;"
+            + "setSilent(2, false) = 1; resend(2) = 1; deliver() = 2; entry(2, 0) = 120066; held(1) = 2; held(0) = 1;"
             + "authenticator(2, 0, 0) = 1; authenticator(2, 0, 1) = 1");
         whole.same("its authenticator", whole.object.authenticator(2, 0, 2), whole.object.chain(1, 2));
 
