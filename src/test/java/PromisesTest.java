@@ -1,8 +1,8 @@
 /** Each promise of the document by itself: ordinary inputs, the edges that the document names, and wrong inputs. */
 public final class PromisesTest {
-    private static final String INDEX = "IndexOutOfBoundsException";
-    private static final String ARGUMENT = "IllegalArgumentException";
-    private static final String STATE = "IllegalStateException";
+    private static final String INDEX = Script.INDEX;
+    private static final String ARGUMENT = Script.ARGUMENT;
+    private static final String STATE = Script.STATE;
 
     public static void main(String[] args) {
         promise1NewObject();
@@ -88,24 +88,24 @@ public final class PromisesTest {
     private static void promise3NoRoom() {
         Script s = new Script("promise 3, a full log");
         for (int i = 0; i < 19; i++) {
-            speak(s, 3, 0, 1);
+            s.speak(0, 1);
         }
         s.calls("logLength(0) = 38; queued() = 19");
-        speak(s, 3, 0, 1);
+        s.speak(0, 1);
         s.calls("logLength(0) = 40; queued() = 20").throwing(STATE, "input(0, 1)").throwing(ARGUMENT, "input(0, 1000)");
         s.calls("cut(0, 1) = 39").throwing(STATE, "input(0, 1)").calls("cut(0, 1) = 38");
-        keepStill(s, 0);
+        s.keepStill(0);
         s.calls("logLength(0) = 39").throwing(STATE, "input(0, 1)").throwing(INDEX, "input(3, 1)");
 
         Script full = new Script("promise 3, a full queue");
         for (int i = 0; i < 20; i++) {
-            speak(full, 3, 0, 2);
+            full.speak(0, 2);
         }
         for (int i = 0; i < 19; i++) {
-            speak(full, 3, 1, 2);
+            full.speak(1, 2);
         }
         full.calls("queued() = 39");
-        speak(full, 3, 2, 0);
+        full.speak(2, 0);
         full.calls("queued() = 40; logLength(2) = 2").throwing(STATE, "input(2, 1)", "input(1, 0)");
         full.calls("deliver() = 2");
         full.calls("queued() = " + (full.object.state(2) % 3 == 0 ? 40 : 39));
@@ -117,7 +117,7 @@ public final class PromisesTest {
             + "entry(1, 0) = 110018; entry(1, 1) = 210339; held(1) = 1; held(0) = 1; held(2) = 0; queued() = 1");
         s.calls("authenticator(1, 0, 0) = 0; authenticator(1, 0, 1) = 1; authenticator(1, 0, 2) = 1683109627");
         s.calls("authenticator(0, 0, 0) = 1; authenticator(0, 0, 1) = 0");
-        s.same("the acknowledgement", s.object.authenticator(0, 0, 2), chained(1, 1, 0, 18));
+        s.same("the acknowledgement", s.object.authenticator(0, 0, 2), Script.chained(1, 1, 0, 18));
         s.calls("deliver() = 0; state(0) = 6324; held(0) = 2; held(1) = 2; authenticator(0, 1, 0) = 1; authenticator(0, 1, 1) = 1;"
             + "authenticator(1, 1, 0) = 0; authenticator(1, 1, 1) = 2; entry(0, 2) = 120339; entry(0, 3) = 220324");
         s.calls("undo() = 2; state(0) = 18; held(0) = 1; queued() = 1");
@@ -134,17 +134,17 @@ public final class PromisesTest {
             + "state(1) = 1; logLength(1) = 0; deliver() = -1; undo() = 2; pending(1) = 0; queued() = 1");
         s.calls("setSilent(1, false) = 0; setSilent(0, true) = 0; deliver() = 1; held(0) = 1; pending(0) = 0");
 
-        Script lost = fortyPending("promise 4, a lost message");
-        speak(lost, 3, 1, 2);
+        Script lost = Script.fortyPending("promise 4, a lost message");
+        lost.speak(1, 2);
         lost.calls("queued() = 1; deliver() = 2; pending(2) = 40; queued() = 0; logLength(2) = 0; held(2) = 0; held(1) = 0");
         lost.calls("undo() = 3; queued() = 1; pending(2) = 40");
     }
 
     private static void promise4NoRoom() {
         Script s = new Script("promise 4, no room");
-        speak(s, 3, 1, 0);
+        s.speak(1, 0);
         for (int i = 0; i < 39; i++) {
-            keepStill(s, 0);
+            s.keepStill(0);
         }
         s.calls("logLength(0) = 39; queued() = 1").throwing(STATE, "deliver()");
         s.calls("setSilent(0, true) = 0; deliver() = 0; pending(0) = 1; setSilent(0, false) = 1; resend(0) = 1")
@@ -155,8 +155,8 @@ public final class PromisesTest {
         // the message that is being delivered does not count: a full queue is no hindrance
         Script full = new Script("promise 4, a full queue");
         for (int i = 0; i < 20; i++) {
-            speak(full, 3, 0, 2);
-            speak(full, 3, 1, 2);
+            full.speak(0, 2);
+            full.speak(1, 2);
         }
         full.calls("queued() = 40; deliver() = 2");
         full.calls("logLength(2) = " + (full.object.state(2) % 3 == 0 ? 2 : 1));
@@ -172,17 +172,17 @@ public final class PromisesTest {
             + "queued() = 2; run(100) = 3; queued() = 0; run(100) = 0; state(1) = 339; state(2) = 1645");
         new Script("promise 5, silent").calls("input(0, 1) = 18; setSilent(1, true) = 0; run(100) = 1; pending(1) = 1; queued() = 0");
 
-        Script lost = fortyPending("promise 5, pending and lost messages count");
-        speak(lost, 3, 1, 2);
-        speak(lost, 3, 1, 2);
+        Script lost = Script.fortyPending("promise 5, pending and lost messages count");
+        lost.speak(1, 2);
+        lost.speak(1, 2);
         lost.calls("run(100) = 2; pending(2) = 40; queued() = 0");
 
         Script stuck = new Script("promise 5, no room");
-        speak(stuck, 3, 1, 2);
-        speak(stuck, 3, 1, 0);
-        speak(stuck, 3, 1, 2);
+        stuck.speak(1, 2);
+        stuck.speak(1, 0);
+        stuck.speak(1, 2);
         for (int i = 0; i < 39; i++) {
-            keepStill(stuck, 0);
+            stuck.keepStill(0);
         }
         stuck.calls("setSilent(2, true) = 0; run(100) = 1; queued() = 2; run(100) = 0; pending(2) = 1; setSilent(0, true) = 0;"
             + "run(100) = 2; pending(0) = 1; pending(2) = 2");
@@ -213,7 +213,7 @@ public final class PromisesTest {
         Script s = new Script("promise 9").calls("pending(1) = 0; setSilent(1, true) = 0; input(0, 1) = 18; pending(1) = 0;"
             + "run(100) = 1; pending(1) = 1; pending(0) = 0; setSilent(1, false) = 1; pending(1) = 1; resend(1) = 1; pending(1) = 0");
         s.throwing(INDEX, "pending(3)", "pending(-1)", "pending(-2147483648)");
-        fortyPending("promise 9, forty").calls("pending(2) = 40; pending(1) = 0");
+        Script.fortyPending("promise 9, forty").calls("pending(2) = 40; pending(1) = 0");
     }
 
     private static void promise10Resend() {
@@ -224,10 +224,10 @@ public final class PromisesTest {
             + "pending(1) = 1; undo() = 3; undo() = 2; pending(1) = 1; queued() = 0");
 
         Script order = new Script("promise 10, in their order, at the end").calls("setSilent(1, true) = 0; input(0, 1) = 18");
-        speak(order, 3, 0, 1);
+        order.speak(0, 1);
         int second = order.object.state(0) % 1000;
         order.calls("run(100) = 2; pending(1) = 2");
-        speak(order, 3, 0, 2);
+        order.speak(0, 2);
         order.calls("resend(1) = 2; pending(1) = 0; queued() = 3; setSilent(1, false) = 0; deliver() = 2; deliver() = 1;"
             + "entry(1, 0) = 110018; logLength(1) = 2; deliver() = 1; entry(1, 2) = " + (110000 + second));
 
@@ -238,9 +238,9 @@ public final class PromisesTest {
             + "authenticator(2, 0, 0) = 1; authenticator(2, 0, 1) = 1");
         whole.same("its authenticator", whole.object.authenticator(2, 0, 2), whole.object.chain(1, 2));
 
-        Script many = fortyPending("promise 10, forty");
+        Script many = Script.fortyPending("promise 10, forty");
         many.calls("resend(2) = 40; queued() = 40; pending(2) = 0; undo() = 3");
-        speak(many, 3, 1, 2);
+        many.speak(1, 2);
         many.throwing(STATE, "resend(2)").throwing(INDEX, "resend(3)");
         many.calls("pending(2) = 40; queued() = 1; resend(1) = 0; deliver() = 2; resend(2) = 40");
     }
@@ -261,11 +261,11 @@ public final class PromisesTest {
     private static void promise12Tamper() {
         Script s = new Script("promise 12").calls("input(0, 1) = 18; tamper(0, 0, 8) = 1; entry(0, 0) = 8; tamper(0, 0, 999) = 8;"
             + "tamper(0, 0, 0) = 999; tamper(0, 1, 17) = 18; entry(0, 1) = 220017; state(0) = 18; logLength(0) = 2; queued() = 1");
-        long first = chained(1, 0, -1, 0);
+        long first = Script.chained(1, 0, -1, 0);
         s.same("chain(0, 1)", s.object.chain(0, 1), first);
-        s.same("chain(0, 2)", s.object.chain(0, 2), chained(first, 2, 1, 17));
+        s.same("chain(0, 2)", s.object.chain(0, 2), Script.chained(first, 2, 1, 17));
         s.calls("undo() = 3; entry(0, 1) = 220018");
-        s.same("chain(0, 2) after undo", s.object.chain(0, 2), chained(first, 2, 1, 18));
+        s.same("chain(0, 2) after undo", s.object.chain(0, 2), Script.chained(first, 2, 1, 18));
         s.throwing(INDEX, "tamper(3, 0, 1)", "tamper(-1, 0, 1)", "tamper(0, 2, 1)", "tamper(0, -1, 1)", "tamper(1, 0, 1)",
             "tamper(0, 2, 1000)", "tamper(0, 2147483647, 1)", "tamper(0, -2147483648, 1)");
         s.throwing(ARGUMENT, "tamper(0, 0, 1000)", "tamper(0, 1, -1)", "tamper(0, 0, 2147483647)");
@@ -281,7 +281,7 @@ public final class PromisesTest {
         s.calls("cut(0, 2) = 0; chain(0, 0) = 1; undo() = 3; logLength(0) = 2; cut(0, 2) = 0").throwing(ARGUMENT, "cut(0, 1)");
         // the log goes on behind what is left
         s.calls("input(0, 3) = 8462; entry(0, 0) = 3");
-        s.same("chain(0, 1)", s.object.chain(0, 1), chained(1, 0, -1, 3));
+        s.same("chain(0, 1)", s.object.chain(0, 1), Script.chained(1, 0, -1, 3));
     }
 
     private static void promise14LogLength() {
@@ -300,9 +300,9 @@ public final class PromisesTest {
     private static void promise16Chain() {
         Script s = new Script("promise 16").calls("chain(0, 0) = 1; chain(2, 0) = 1").throwing(INDEX, "chain(0, 1)");
         s.calls("input(0, 1) = 18; chain(0, 1) = 1000260; chain(0, 2) = 1683109627; deliver() = 1");
-        long received = chained(1, 1, 0, 18);
+        long received = Script.chained(1, 1, 0, 18);
         s.same("chain(1, 1)", s.object.chain(1, 1), received);
-        s.same("chain(1, 2)", s.object.chain(1, 2), chained(received, 2, 0, 339));
+        s.same("chain(1, 2)", s.object.chain(1, 2), Script.chained(received, 2, 0, 339));
         s.throwing(INDEX, "chain(3, 0)", "chain(-1, 0)", "chain(0, 3)", "chain(0, -1)", "chain(0, 2147483647)",
             "chain(0, -2147483648)");
     }
@@ -330,7 +330,7 @@ public final class PromisesTest {
             if (i % 19 == 0 && i > 0) {
                 many.object.cut(1, many.object.logLength(1));
             }
-            speak(many, 2, 0, 1);
+            many.speak(0, 1);
             made[i] = many.object.chain(0, many.object.logLength(0));
             many.object.run(2);
             many.same("held(1)", many.object.held(1), i < 60 ? i + 1 : 60);
@@ -389,13 +389,13 @@ public final class PromisesTest {
             + "evidence(0, 3) = 0");
         Script s = new Script("promise 20, the order of holders");
         s.calls("reset(3) = 3");
-        speak(s, 3, 2, 1);
-        speak(s, 3, 2, 0);
+        s.speak(2, 1);
+        s.speak(2, 0);
         s.calls("deliver() = 1; deliver() = 0; cut(2, 4) = 0; audit(1, 2) = 2; evidence(0, 0) = 0; evidence(0, 3) = 3");
         // a log that was cut and has grown again has other numbers
         Script grown = new Script("promise 20, a log that has grown again").calls("input(0, 1) = 18; deliver() = 1; cut(0, 2) = 0");
-        keepStill(grown, 0);
-        keepStill(grown, 0);
+        grown.keepStill(0);
+        grown.keepStill(0);
         grown.calls("audit(1, 0) = 2; evidence(0, 0) = 0; evidence(0, 3) = 1");
         // authenticators of other machines do not matter, nor does the mismatch hide behind the replay
         new Script("promise 20, of others").calls("input(0, 1) = 18; deliver() = 1; tamper(0, 0, 2) = 1; audit(0, 1) = 0; audit(0, 2) = 0");
@@ -411,7 +411,7 @@ public final class PromisesTest {
             + "evidence(0, 3) = 1");
         // 593 and 8462 have no output; tampered with, entry 2 has one, and entry 3 is no SEND entry
         Script missing = new Script("promise 20, a SEND too few").calls("input(0, 1) = 18; input(0, 2) = 593; input(0, 3) = 8462");
-        missing.calls("tamper(0, 2, " + valueFor(3, 18, 1) + ") = 2; audit(2, 0) = 2; evidence(0, 0) = 1; evidence(0, 3) = 3");
+        missing.calls("tamper(0, 2, " + Script.valueFor(3, 18, 1) + ") = 2; audit(2, 0) = 2; evidence(0, 0) = 1; evidence(0, 3) = 3");
         // another output: with 4 the state is 69, which goes to machine 2
         new Script("promise 20, another peer").calls("input(0, 1) = 18; tamper(0, 0, 4) = 1; tamper(0, 1, 69) = 18; audit(2, 0) = 2;"
             + "evidence(0, 3) = 1");
@@ -448,7 +448,7 @@ public final class PromisesTest {
         Script thirty = new Script("promise 21, thirty pieces").calls("reset(6) = 3");
         for (int x = 0; x < 6; x++) {
             thirty.object.lie(x);
-            speak(thirty, 6, x, (x + 1) % 6);
+            thirty.speak(x, (x + 1) % 6);
         }
         thirty.calls("auditAll() = 30; evidenceCount() = 30; evidence(29, 1) = 5; evidence(29, 2) = 4; verdictMask(2) = 63;"
             + "verdictMask(0) = 0; auditAll() = 0; evidenceCount() = 30");
@@ -537,82 +537,30 @@ public final class PromisesTest {
 
     private static void promise27Digest() {
         Script s = new Script("promise 27");
-        s.same("a new object", s.object.digest(), folded(0, 3,
+        s.same("a new object", s.object.digest(), Script.folded(0, 3,
             0, 0, 0, 6, 0, 1, 0, 0, 0, 0, 0,
             1, 0, 0, 5, 0, 1, 0, 0, 0, 0, 0,
             2, 0, 0, 3, 0, 1, 0, 0, 0, 0, 0,
             0, 0));
         s.calls("input(0, 1) = 18; deliver() = 1; setSilent(2, true) = 0; lie(2) = false; audit(0, 2) = 1; setWitnesses(1, 4) = 5");
-        long received = chained(1, 1, 0, 18);
-        s.same("some calls", s.object.digest(), folded(4, 3,
+        long received = Script.chained(1, 1, 0, 18);
+        s.same("some calls", s.object.digest(), Script.folded(4, 3,
             18, 0, 0, 6, 2, 1, 220018, 1683109627, 1, 0, 0, 0, 0,
-            339, 0, 0, 4, 2, 110018, 210339, chained(received, 2, 0, 339), 1, 0, 0, 0, 0,
+            339, 0, 0, 4, 2, 110018, 210339, Script.chained(received, 2, 0, 339), 1, 0, 0, 0, 0,
             2, 1, 1, 3, 0, 1, 0, 0, 1, 0, 0,
             1, 0, 339,
             0));
         Script faults = new Script("promise 27, evidence and pending").calls("reset(2) = 3; lie(0) = false; input(0, 1) = 18; setSilent(1, true) = 0;"
             + "deliver() = 1; audit(1, 0) = 2");
-        faults.same("faults", faults.object.digest(), folded(4, 2,
-            18, 0, 0, 2, 2, 1, 220019, chained(1000260, 2, 1, 19), 0, 0, 0, 2,
+        faults.same("faults", faults.object.digest(), Script.folded(4, 2,
+            18, 0, 0, 2, 2, 1, 220019, Script.chained(1000260, 2, 1, 19), 0, 0, 0, 2,
             1, 1, 0, 1, 0, 1, 0, 1, 0, 0,
             0,
             1, 1, 0, 1, 1));
         faults.calls("undo() = 3");
-        faults.same("after undo", faults.object.digest(), folded(3, 2,
-            18, 0, 0, 2, 2, 1, 220019, chained(1000260, 2, 1, 19), 0, 0, 0, 0,
+        faults.same("after undo", faults.object.digest(), Script.folded(3, 2,
+            18, 0, 0, 2, 2, 1, 220019, Script.chained(1000260, 2, 1, 19), 0, 0, 0, 0,
             1, 1, 0, 1, 0, 1, 0, 1, 0, 0,
             0, 0));
-    }
-
-    // ---- what the promises above share
-
-    /** An input after which a machine in this state sends a message to the machine that is so many places further. */
-    private static int valueFor(int n, int state, int places) {
-        for (int v = 0; v < 1000; v++) {
-            int m = (31 * state + 17 * v + 1) % 9973;
-            if (m % 3 == 0 && 1 + m % (n - 1) == places) {
-                return v;
-            }
-        }
-        throw new IllegalStateException("no such value");
-    }
-
-    private static void speak(Script s, int n, int machine, int to) {
-        int state = s.object.state(machine);
-        int v = valueFor(n, state, Math.floorMod(to - machine, n));
-        s.due("input(" + machine + ", " + v + ")", Integer.toString((31 * state + 17 * v + 1) % 9973));
-    }
-
-    /** Lets a machine take an input after which it has no output. */
-    private static void keepStill(Script s, int machine) {
-        int state = s.object.state(machine);
-        int v = 0;
-        while ((31 * state + 17 * v + 1) % 9973 % 3 == 0) {
-            v++;
-        }
-        s.due("input(" + machine + ", " + v + ")", Integer.toString((31 * state + 17 * v + 1) % 9973));
-    }
-
-    /** 40 messages are pending for machine 2, which is silent; the logs of the others are empty. */
-    private static Script fortyPending(String title) {
-        Script s = new Script(title);
-        s.calls("setSilent(2, true) = 0");
-        for (int i = 0; i < 20; i++) {
-            speak(s, 3, 0, 2);
-            speak(s, 3, 1, 2);
-        }
-        return s.calls("queued() = 40; run(100) = 40; pending(2) = 40; queued() = 0; cut(0, 40) = 0; cut(1, 40) = 0");
-    }
-
-    private static long chained(long before, int kind, int peer, int value) {
-        return (before * 1000003L + 7L * kind + 31L * (peer + 1) + 257L * value) % 2147483647L;
-    }
-
-    private static long folded(long... values) {
-        long h = 12833;
-        for (long value : values) {
-            h = 31 * h + value;
-        }
-        return h;
     }
 }
