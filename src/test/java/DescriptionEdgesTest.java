@@ -267,7 +267,7 @@ public final class DescriptionEdgesTest {
         s.calls("run(100) = 1; logLength(" + from + ") = 2; logLength(" + to + ") = 1");
     }
 
-    private static boolean isHeardInSilence(PeerAudit object, int n, int from, int to, int v) {
+    private static boolean isHeardInSilence(Subject object, int n, int from, int to, int v) {
         int m = (31 * object.state(from) + 17 * v + 1) % 9973;
         int heard = (31 * object.state(to) + 17 * (m % 1000) + from + 2) % 9973;
         return m % 3 == 0 && (from + 1 + m % (n - 1)) % n == to && heard % 3 != 0;
@@ -289,6 +289,7 @@ public final class DescriptionEdgesTest {
         pendingAtTheEndOfTheList();
         fortyPendingAndOneMore();
         nothingElseHappens();
+        thenTheSenderGetsTheAcknowledgement();
         roomForAnInput();
         roomForAMessage();
         theMessageThatIsBeingDeliveredIsNotCounted();
@@ -366,6 +367,23 @@ public final class DescriptionEdgesTest {
             + "lie(1) = true");
         // it stays pending when the machine speaks again
         s.calls("setSilent(1, false) = 1; pending(1) = 1; queued() = 0; deliver() = -1; run(100) = 0; pending(1) = 1");
+    }
+
+    /** Every sender gets it, a silent one and one without room, too. */
+    private static void thenTheSenderGetsTheAcknowledgement() {
+        String title = "and then the sender gets an authenticator for the RECEIVE entry (the acknowledgement)";
+        String acknowledged = "deliver() = 1; held(1) = 1; held(0) = 1; authenticator(0, 0, 0) = 1; authenticator(0, 0, 1) = 0;"
+            + "authenticator(0, 0, 2) = ";
+        for (boolean silent : new boolean[] {false, true}) {
+            new Script(title).calls("input(0, 1) = 18; setSilent(0, " + silent + ") = 0; " + acknowledged
+                + Script.chained(1, 1, 0, 18) + "; pending(0) = 0");
+        }
+        Script full = new Script(title);
+        for (int i = 0; i < 20; i++) {
+            full.speak(0, 1);
+        }
+        int sent = full.object.entry(0, 1) % 10000;
+        full.calls("logLength(0) = 40; " + acknowledged + Script.chained(1, 1, 0, sent) + "; logLength(0) = 40");
     }
 
     private static void roomForAnInput() {

@@ -1,5 +1,6 @@
 import java.lang.reflect.InvocationTargetException;
 import java.lang.reflect.Method;
+import java.lang.reflect.Modifier;
 import java.util.Arrays;
 import java.util.LinkedHashMap;
 import java.util.Map;
@@ -7,12 +8,16 @@ import java.util.Random;
 import java.util.TreeMap;
 
 /**
- * Long runs of calls, drawn from fixed seeds, on PeerAudit and on the Model side by side. After each call the answers
- * and the digests must be the same, and at times all that can be asked for. The edges of the document are counted, and
- * the test fails if the runs do not come to one of them.
+ * Long runs of calls, drawn from fixed seeds, on PeerAudit and on the Model side by side. Each answer must be the same;
+ * in the runs with looks the digests after each call, too, and at times all that can be asked for; the runs without them
+ * use one object for all of its 512 calls. The edges of the document are counted, and the test fails if the runs do not
+ * come to one of them.
  */
 public final class ModelTest {
-    private static final int CALLS = 512;
+    /** The last one of all calls is digest(). */
+    private static final int DRAWN_CALLS = Subject.MOST_CALLS - 1;
+    /** Fewer, as an object that is made anew for looks has made all these calls first. */
+    private static final int DRAWN_CALLS_WITH_LOOKS = 400;
     private static final int RUNS_OF_EACH_KIND = 20;
     /** How often each method is called, by the kind of the run. */
     private static final String[] KINDS = {
@@ -42,25 +47,27 @@ public final class ModelTest {
         "4 saved states", "6 machines", "2 machines", "run stopped by a machine without room", "a lost message",
     };
 
-    private static final Map<String, Method> REAL = methods(PeerAudit.class);
-    private static final Map<String, Method> TOLD = methods(Model.class);
+    private static final Map<String, Method> TOLD = methodsOfTheModel();
     private static final Map<String, Integer> EDGE_COUNTS = new TreeMap<>();
     private static int wrong = 0;
 
     private final Random random;
-    private final PeerAudit real = new PeerAudit();
+    private final boolean withLooks;
+    private final Subject real = new Subject();
     private final Model told = new Model();
     private final StringBuilder history = new StringBuilder();
 
-    private ModelTest(long seed) {
+    private ModelTest(long seed, boolean withLooks) {
         random = new Random(seed);
+        this.withLooks = withLooks;
     }
 
     public static void main(String[] args) {
         for (int kind = 0; kind < KINDS.length; kind++) {
             Map<String, Integer> weights = weights(KINDS[kind]);
             for (int run = 0; run < RUNS_OF_EACH_KIND && wrong < 5; run++) {
-                new ModelTest(1000L * kind + run).walk(weights);
+                new ModelTest(1000L * kind + run, true).walk(weights, DRAWN_CALLS_WITH_LOOKS);
+                new ModelTest(1000L * kind + 500 + run, false).walk(weights, DRAWN_CALLS);
             }
         }
         for (String edge : EDGES) {
@@ -75,21 +82,22 @@ public final class ModelTest {
         }
     }
 
-    private void walk(Map<String, Integer> weights) {
+    private void walk(Map<String, Integer> weights, int calls) {
         int n = random.nextInt(6) + 1;
-        if (n > 1 && !step("reset", n)) {
+        if (!step("reset", n)) {
             return;
         }
-        for (int i = 0; i < CALLS - 1; i++) {
+        for (int i = 1; i < calls; i++) {
             String name = draw(weights);
-            if (!step(name, arguments(name))) {
-                return;
-            }
-            if (i % 16 == 0 && !lookAtAll()) {
+            if (!step(name, arguments(name)) || withLooks && i % 16 == 0 && !lookAtAll()) {
                 return;
             }
         }
-        lookAtAll();
+        if (withLooks) {
+            lookAtAll();
+        } else {
+            look("digest");
+        }
     }
 
     private String draw(Map<String, Integer> weights) {
@@ -138,7 +146,7 @@ public final class ModelTest {
             case "evidence":
                 return new Object[] {within(told.evidenceCount()), within(4)};
             default:
-                return REAL.get(name).getParameterCount() == 0 ? new Object[0] : new Object[] {machine};
+                return TOLD.get(name).getParameterCount() == 0 ? new Object[0] : new Object[] {machine};
         }
     }
 
@@ -148,14 +156,14 @@ public final class ModelTest {
 
     private int count() {
         int n = 2;
-        while (n < 6 && answer(TOLD.get("state"), told, n).indexOf("throws") < 0) {
+        while (n < 6 && told("state", n).indexOf("throws") < 0) {
             n++;
         }
         return n;
     }
 
     private int length(int machine) {
-        String answer = answer(TOLD.get("logLength"), told, machine);
+        String answer = told("logLength", machine);
         return answer.startsWith("throws") ? 3 : Integer.parseInt(answer);
     }
 
@@ -165,7 +173,7 @@ public final class ModelTest {
 
     /** A value after which the machine has an output. */
     private int speakingValue(int machine) {
-        String state = answer(TOLD.get("state"), told, machine);
+        String state = told("state", machine);
         int value = random.nextInt(1000);
         for (int i = 0; i < 1000 && !state.startsWith("throws"); i++) {
             int v = (value + i) % 1000;
@@ -188,15 +196,14 @@ public final class ModelTest {
 
     private boolean step(String name, Object... arguments) {
         boolean willBeLost = name.equals("deliver") && fullReceiver();
-        String due = answer(TOLD.get(name), told, arguments);
-        String got = answer(REAL.get(name), real, arguments);
+        String due = told(name, arguments);
+        String got = real.answer(Call.of(name, arguments));
         history.append(name).append(Arrays.toString(arguments)).append(" = ").append(due).append("\n");
         countEdges(name, due, arguments);
         if (willBeLost && !due.startsWith("throws")) {
             edge("a lost message");
         }
-        return same(name + Arrays.toString(arguments), got, due)
-            && same("digest after " + name + Arrays.toString(arguments), "" + real.digest(), "" + told.digest());
+        return same(name + Arrays.toString(arguments), got, due) && (!withLooks || look("digest"));
     }
 
     private boolean fullReceiver() {
@@ -239,8 +246,7 @@ public final class ModelTest {
     }
 
     private boolean look(String name, Object... arguments) {
-        return same(name + Arrays.toString(arguments), answer(REAL.get(name), real, arguments),
-            answer(TOLD.get(name), told, arguments));
+        return same(name + Arrays.toString(arguments), real.look(Call.of(name, arguments)), told(name, arguments));
     }
 
     private boolean same(String what, String got, String due) {
@@ -282,9 +288,10 @@ public final class ModelTest {
         EDGE_COUNTS.merge(name, 1, Integer::sum);
     }
 
-    private static String answer(Method method, Object target, Object... arguments) {
+    /** What the model answers, or "throws E". */
+    private String told(String name, Object... arguments) {
         try {
-            return String.valueOf(method.invoke(target, arguments));
+            return String.valueOf(TOLD.get(name).invoke(told, arguments));
         } catch (InvocationTargetException e) {
             return "throws " + e.getCause().getClass().getSimpleName();
         } catch (IllegalAccessException e) {
@@ -292,15 +299,11 @@ public final class ModelTest {
         }
     }
 
-    private static Map<String, Method> methods(Class<?> type) {
+    private static Map<String, Method> methodsOfTheModel() {
         Map<String, Method> found = new LinkedHashMap<>();
-        for (Method face : PeerAudit.class.getMethods()) {
-            if (face.getDeclaringClass() == PeerAudit.class) {
-                try {
-                    found.put(face.getName(), type.getDeclaredMethod(face.getName(), face.getParameterTypes()));
-                } catch (NoSuchMethodException e) {
-                    throw new IllegalStateException(e);
-                }
+        for (Method method : Model.class.getDeclaredMethods()) {
+            if (!Modifier.isPrivate(method.getModifiers())) {
+                found.put(method.getName(), method);
             }
         }
         return found;

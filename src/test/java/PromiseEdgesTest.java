@@ -118,7 +118,7 @@ public final class PromiseEdgesTest {
         s.refused(STATE, "undo()").refused(INDEX, "evidence(0, 0)", "state(3)").calls("deliver() = -1");
         // nothing of another object is to be seen
         new Script("promise 1, one object").calls("reset(6) = 3; input(0, 1) = 18; lie(1) = false");
-        s.same("a new object beside another one", View.of(new PeerAudit()), View.of(s.object));
+        s.same("a new object beside another one", View.of(new Subject()), View.of(s.object));
     }
 
     private static void promise2Range() {
@@ -452,6 +452,11 @@ public final class PromiseEdgesTest {
         Script deep = new Script("promise 20, the verdict afterwards")
             .calls("setSilent(0, true) = 0; audit(1, 0) = 1; setSilent(0, false) = 0; audit(1, 0) = 0; lie(0) = false");
         deep.speak(0, 1).calls("audit(1, 0) = 2; verdict(1, 0) = 2; verdict(2, 0) = 0");
+        // no other reason is named: a silent witness audits, too, and so does one that is exposed itself
+        new Script("promise 20, a silent witness").calls("setSilent(1, true) = 0; audit(1, 0) = 0; lie(0) = false; input(0, 1) = 18;"
+            + "audit(1, 0) = 2; evidence(0, 2) = 1; setSilent(2, true) = 0; audit(1, 2) = 1; auditAll() = 4; verdict(2, 0) = 2");
+        new Script("promise 20, an exposed witness").calls("lie(0) = false; input(0, 1) = 18; audit(1, 0) = 2; audit(0, 1) = 0;"
+            + "setSilent(2, true) = 0; audit(0, 2) = 1");
     }
 
     private static void promise21() {

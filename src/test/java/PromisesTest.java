@@ -325,14 +325,14 @@ public final class PromisesTest {
         long[] made = new long[61];
         for (int i = 0; i < 61; i++) {
             if (i == 20 || i == 40 || i == 60) {
-                many.object.cut(0, many.object.logLength(0));
+                many.calls("cut(0, " + many.object.logLength(0) + ") = 0");
             }
             if (i % 19 == 0 && i > 0) {
-                many.object.cut(1, many.object.logLength(1));
+                many.calls("cut(1, " + many.object.logLength(1) + ") = 0");
             }
             many.speak(0, 1);
             made[i] = many.object.chain(0, many.object.logLength(0));
-            many.object.run(2);
+            many.answer("run(2)");
             many.same("held(1)", many.object.held(1), i < 60 ? i + 1 : 60);
         }
         many.calls("held(0) = 60; authenticator(1, 59, 1) = 1; authenticator(1, 0, 1) = 3; authenticator(0, 0, 0) = 1");
@@ -447,7 +447,7 @@ public final class PromisesTest {
             + "verdict(1, 0) = 0; verdict(2, 0) = 2; setWitnesses(0, 0) = 4; auditAll() = 0; setWitnesses(0, 6) = 0; auditAll() = 1");
         Script thirty = new Script("promise 21, thirty pieces").calls("reset(6) = 3");
         for (int x = 0; x < 6; x++) {
-            thirty.object.lie(x);
+            thirty.answer("lie(" + x + ")");
             thirty.speak(x, (x + 1) % 6);
         }
         thirty.calls("auditAll() = 30; evidenceCount() = 30; evidence(29, 1) = 5; evidence(29, 2) = 4; verdictMask(2) = 63;"

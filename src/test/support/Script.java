@@ -1,10 +1,3 @@
-import java.lang.reflect.InvocationTargetException;
-import java.lang.reflect.Method;
-import java.util.ArrayList;
-import java.util.HashMap;
-import java.util.List;
-import java.util.Map;
-
 /**
  * Calls on one new PeerAudit, written as the document writes its examples: "call = answer; call = answer", with
  * "throws E" as the answer of a call that must throw E. Every answer that is not as due is printed and counted.
@@ -14,13 +7,10 @@ final class Script {
     static final String ARGUMENT = "IllegalArgumentException";
     static final String STATE = "IllegalStateException";
 
-    private static final Map<String, Method> FACE = face();
     private static int wrong = 0;
 
-    final PeerAudit object = new PeerAudit();
+    final Subject object = new Subject();
     private final String title;
-    /** The calls that did not throw. */
-    private final List<String> history = new ArrayList<>();
 
     Script(String title) {
         this.title = title;
@@ -56,11 +46,7 @@ final class Script {
 
     /** The answer of a call, or "throws E". */
     String answer(String call) {
-        String answer = answer(object, call);
-        if (!answer.startsWith("throws")) {
-            history.add(call);
-        }
-        return answer;
+        return object.answer(call);
     }
 
     void same(String what, long got, long want) {
@@ -87,13 +73,15 @@ final class Script {
 
     /**
      * Calls that must throw, and change nothing, neither what can be asked for nor what only later calls show: the undo
-     * stack and the messages. All calls before must have been made by this script, as they are made again on new objects.
+     * stack and the messages. These are looked at on new objects after the same calls, as the look uses them up.
      */
     Script refused(String exception, String... calls) {
         for (String call : calls) {
+            String past = View.ofPast(object.again());
+            String messages = View.ofMessages(object.again());
             throwing(exception, call);
-            same(call + " leaves the undo stack", View.ofPast(again(call)), View.ofPast(again()));
-            same(call + " leaves the messages", View.ofMessages(again(call)), View.ofMessages(again()));
+            same(call + " leaves the undo stack", View.ofPast(object.again()), past);
+            same(call + " leaves the messages", View.ofMessages(object.again()), messages);
         }
         return this;
     }
@@ -104,14 +92,11 @@ final class Script {
         same(call + " undone leaves the messages", View.ofMessages(again(call, "undo()")), View.ofMessages(again()));
     }
 
-    /** A new object after the calls of this script that did not throw, and then those given. */
-    PeerAudit again(String... more) {
-        PeerAudit other = new PeerAudit();
-        for (String call : history) {
-            answer(other, call);
-        }
+    /** A new object after the calls of this script, and then those given. */
+    Subject again(String... more) {
+        Subject other = object.again();
         for (String call : more) {
-            answer(other, call);
+            other.answer(call);
         }
         return other;
     }
@@ -201,42 +186,5 @@ final class Script {
             h = 31 * h + value;
         }
         return h;
-    }
-
-    // ---- how a written call becomes a call
-
-    private static Map<String, Method> face() {
-        Map<String, Method> found = new HashMap<>();
-        for (Method method : PeerAudit.class.getDeclaredMethods()) {
-            found.put(method.getName() + method.getParameterCount(), method);
-        }
-        return found;
-    }
-
-    private static String answer(PeerAudit object, String call) {
-        int open = call.indexOf('(');
-        String inside = call.substring(open + 1, call.lastIndexOf(')')).trim();
-        String[] parts = inside.isEmpty() ? new String[0] : inside.split(",");
-        Method method = FACE.get(call.substring(0, open) + parts.length);
-        return method == null ? "no such method" : invoke(object, method, parts);
-    }
-
-    private static String invoke(PeerAudit object, Method method, String[] parts) {
-        Object[] arguments = new Object[parts.length];
-        for (int i = 0; i < parts.length; i++) {
-            String part = parts[i].trim();
-            if (method.getParameterTypes()[i] == boolean.class) {
-                arguments[i] = Boolean.valueOf(part);
-            } else {
-                arguments[i] = Integer.valueOf(part);
-            }
-        }
-        try {
-            return String.valueOf(method.invoke(object, arguments));
-        } catch (InvocationTargetException e) {
-            return "throws " + e.getCause().getClass().getSimpleName();
-        } catch (IllegalAccessException e) {
-            return "not public";
-        }
     }
 }

@@ -2,7 +2,7 @@
 final class View {
     private View() { }
 
-    static int machines(PeerAudit object) {
+    static int machines(Subject object) {
         int n = 0;
         while (n < 6) {
             try {
@@ -15,7 +15,7 @@ final class View {
         return n;
     }
 
-    static String of(PeerAudit object) {
+    static String of(Subject object) {
         StringBuilder text = new StringBuilder();
         add(text, object.digest(), object.queued());
         int n = machines(object);
@@ -40,45 +40,41 @@ final class View {
     }
 
     /** What the undo stack has: it is empty afterwards. */
-    static String ofPast(PeerAudit object) {
+    static String ofPast(Subject object) {
         StringBuilder text = new StringBuilder(of(object));
-        int left = 1;
-        while (left > 0) {
-            try {
-                left = object.undo();
-                text.append(left).append(": ").append(of(object));
-            } catch (IllegalStateException e) {
-                left = 0;
-            }
+        String left = object.answer("undo()");
+        while (!left.startsWith("throws")) {
+            text.append(left).append(": ").append(of(object));
+            left = object.answer("undo()");
         }
         return text.toString();
     }
 
     /** What the messages of the queue and those that are pending have in them: they are all delivered afterwards. */
-    static String ofMessages(PeerAudit object) {
+    static String ofMessages(Subject object) {
         StringBuilder text = new StringBuilder();
         int n = machines(object);
         for (int x = 0; x < n; x++) {
-            object.setSilent(x, false);
+            object.answer("setSilent(" + x + ", false)");
         }
         for (int round = 0; round <= n; round++) {
-            int delivered = 1;
-            while (delivered > 0) {
+            String delivered = "";
+            while (!delivered.equals("0")) {
                 makeRoom(object, n);
-                delivered = object.run(10);
+                delivered = object.answer("run(10)");
                 text.append(of(object));
             }
             if (round < n) {
-                object.resend(round);
+                object.answer("resend(" + round + ")");
             }
         }
         return text.toString();
     }
 
-    private static void makeRoom(PeerAudit object, int n) {
+    private static void makeRoom(Subject object, int n) {
         for (int x = 0; x < n; x++) {
             if (object.logLength(x) > 0) {
-                object.cut(x, object.logLength(x));
+                object.answer("cut(" + x + ", " + object.logLength(x) + ")");
             }
         }
     }
